@@ -479,7 +479,7 @@ public final class OverrunHouse {
         return isOrder ? bestOrder(mixes) : fewestWashes[cell(NO_FORMER, mixes)];
     }
 
-    /** A set without one of its mixes is a smaller number: it is reckoned ahead of the whole set. */
+    /** A set less one of its mixes is a smaller number, and so reckoned ahead of the whole. */
     private void reckonWashes() {
         for (int rest = 1; rest < 1 << mixCount; rest++) {
             for (int former = 0; former < FORMERS; former++) {
