@@ -240,6 +240,7 @@ public final class MixesTest {
         h.ingredient(10, 0, 0, 1, 0);
         h.mix(2, 1);
         CHECK.same("without sugar and milk", h.part(1, 3), -0.0);
+        CHECK.same("of one kilogram", h.part(1, 0), 1.0);
     }
 
     private static void ice() {

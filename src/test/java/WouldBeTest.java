@@ -15,6 +15,9 @@ public final class WouldBeTest {
         wouldSpoilAtTheEdge();
         digestOfNew();
         digest();
+        digestAsksWhatSpoils();
+        digestAsksWhatBars();
+        digestOfAFullHouse();
         CHECK.end();
     }
 
@@ -197,13 +200,32 @@ public final class WouldBeTest {
         hoursAreTwentyFour();
     }
 
-    /** What would be coarse only behind more than 24 hours is not told. */
+    /** One batch in a store that has -10.0 and so many openings more, and wants this. */
+    private static OverrunHouse slow(int sugar, int minutes, int openings, int set) {
+        OverrunHouse h = new OverrunHouse();
+        h.ingredient(0, 0, sugar, 1, 0);
+        h.mix(0, 100);
+        h.heat(0, 80, 15);
+        h.pass(4);
+        h.run(0, 0, 12, 50);
+        h.harden(0, minutes);
+        h.store(-10);
+        h.lay(0, 0);
+        h.door(0, openings);
+        h.set(0, set);
+        return h;
+    }
+
+    /** The first batch grows coarse in its 24th hour, the other one in its 25th. */
     private static void hoursAreTwentyFour() {
-        for (int minutes = 10; minutes <= 90; minutes++) {
-            OverrunHouse h = warm(minutes, 10);
-            boolean coarse = h.wouldBe(0, 24) > 50.0;
-            CHECK.same("would spoil, " + minutes, h.wouldSpoil(0, 0), coarse ? 1L : 0L);
-        }
+        OverrunHouse h = slow(258, 70, 5, -13);
+        CHECK.same("not coarse behind 23", h.wouldBe(0, 23) > 50.0, false);
+        CHECK.same("coarse behind 24", h.wouldBe(0, 24) > 50.0, true);
+        CHECK.same("spoils by 24", h.wouldSpoil(0, 0), 1);
+        OverrunHouse g = slow(313, 82, 4, -21);
+        CHECK.same("not coarse behind 24", g.wouldBe(0, 24) > 50.0, false);
+        CHECK.same("coarse behind 25", g.wouldBe(0, 25) > 50.0, true);
+        CHECK.same("does not spoil by 24", g.wouldSpoil(0, 0), 0);
     }
 
     private static long next(long d, long v) {
@@ -229,29 +251,98 @@ public final class WouldBeTest {
         h.door(1, 3);
         h.pass(2);
         h.wash(1);
+        digestIs(h);
+        h.sell(0, 5);
         h.call(0);
+        h.pass(3);
+        digestIs(h);
+    }
+
+    /** Batch 0 is lost by one opening more, batch 1 as it is. */
+    private static void digestAsksWhatSpoils() {
+        OverrunHouse h = warm(10, 11);
+        h.store(-12);
+        h.door(1, 10);
+        h.lay(1, 1);
+        CHECK.same("none in 0", h.wouldSpoil(0, 0), 0);
+        CHECK.same("one in 0", h.wouldSpoil(0, 1), 1);
+        CHECK.same("one in 1", h.wouldSpoil(1, 0), 1);
+        CHECK.same("above 0", h.temp(1), 3.0);
+        digestIs(h);
+    }
+
+    /** 20 kilograms are left of mix 0, 19 of mix 1; barrel 0 bars mix 2, barrel 1 does not. */
+    private static void digestAsksWhatBars() {
+        OverrunHouse h = withHarms(1, 1, 0);
+        h.put(0, 0, 20);
+        h.put(1, 1, 19);
+        h.put(2, 2, 20);
+        for (int i = 0; i < 3; i++) {
+            h.heat(i, 80, 15);
+        }
+        h.pass(4);
+        h.run(0, 0, 10, 20);
+        h.run(0, 1, 10, 20);
+        CHECK.same("bars(0, 0)", h.bars(0, 0, 20, 80), 0);
+        CHECK.same("bars(0, 1)", h.bars(0, 1, 20, 80), 4);
+        CHECK.same("bars(0, 2)", h.bars(0, 2, 20, 80), 5);
+        CHECK.same("bars(1, 2)", h.bars(1, 2, 20, 80), 0);
+        digestIs(h);
+    }
+
+    /** As many of all as there may be: no row lies behind the last one. */
+    private static void digestOfAFullHouse() {
+        OverrunHouse h = withHarms(1, 3, 7, 5, 4);
+        h.ingredient(0, 0, 480, 1, 0);
+        for (int i = 0; i < 5; i++) {
+            h.put(i, 5, 490);
+            h.heat(i, 80, 15);
+        }
+        for (int i = 0; i < 3; i++) {
+            h.store(-10 - i);
+        }
+        h.pass(4);
+        for (int i = 0; i < 12; i++) {
+            h.wash(0);
+            CHECK.same("run", h.run(0, i % 5, 10 + i, 20 + i), i);
+            if (i > 0) {
+                h.harden(i, 10 + i);
+                h.lay(i, i % 3);
+            }
+        }
+        digestIs(h);
+        h.door(2, 9);
+        CHECK.same("pass: the soft one is lost", h.pass(1), 1 + 4);
+        CHECK.same("where the soft one is", h.ofBatch(0, 3), 11);
+        h.sell(1, 99);
+        CHECK.same("call", h.call(5), h.ofBatch(1, 1));
+        digestIs(h);
+    }
+
+    private static void digestIs(OverrunHouse h) {
         long d = 9606;
         for (int what = 0; what <= 11; what++) {
             d = next(d, h.many(what));
         }
-        for (int mix = 0; mix < 3; mix++) {
+        for (int mix = 0; mix < h.many(1); mix++) {
             for (int what = 0; what <= 8; what++) {
                 d = next(d, h.ofMix(mix, what));
             }
             d = next(d, h.bars(0, mix, 20, 80));
         }
-        for (int batch = 0; batch < 2; batch++) {
+        for (int batch = 0; batch < h.many(2); batch++) {
             for (int what = 0; what <= 5; what++) {
                 d = next(d, h.ofBatch(batch, what));
             }
             d = next(d, (long) (h.crystal(batch) * 8));
         }
-        for (int store = 0; store < 2; store++) {
+        for (int store = 0; store < h.many(5); store++) {
             d = next(d, (long) (h.temp(store) * 8));
             d = next(d, h.wouldSpoil(store, 0));
         }
-        d = next(d, h.day(7, true));
-        d = next(d, h.day(7, false));
+        int all = (1 << h.many(1)) - 1;
+        d = next(d, h.day(all, true));
+        d = next(d, h.day(all, false));
         CHECK.same("digest", h.digest(), d);
         CHECK.same("digest again", h.digest(), d);
     }
