@@ -507,7 +507,7 @@ public final class ModelTest {
         seed = number * 7919L + 17;
     }
 
-    /** The next number of the row, low to high; now and then one that lies just outside. */
+    /** The next number of the row, low to high; now and then one just outside, or far away. */
     private int any(int low, int high) {
         seed = seed * 6364136223846793005L + 1442695040888963407L;
         int step = (int) (seed >>> 40);
@@ -517,6 +517,12 @@ public final class ModelTest {
         }
         if (odd == 1) {
             return high + 1;
+        }
+        if (step % 512 == 2) {
+            return Integer.MIN_VALUE;
+        }
+        if (step % 512 == 3) {
+            return Integer.MAX_VALUE;
         }
         seed = seed * 6364136223846793005L + 1442695040888963407L;
         return low + (int) ((seed >>> 33) % (high - low + 1));
