@@ -13,6 +13,7 @@ public final class StaysTest {
         creamBehindARun();
         batchesOfAMixWhereverTheyAre();
         restsBehindHours();
+        allOnTheBelt();
         hardOnTheBelt();
         hoursByTheirFormula();
         calledOnesGrowCoarse();
@@ -121,6 +122,15 @@ public final class StaysTest {
         CHECK.same("barrel 1", h.many(9), 1);
         CHECK.same("bars", h.bars(0, 0, 5, 20), 5);
         CHECK.same("washed", h.wash(1), 1);
+    }
+
+    /** "3 those that are LOST, 4 those that are SOLD": none, if as many as may be are on the BELT. */
+    private static void allOnTheBelt() {
+        OverrunHouse h = Houses.soft(12);
+        CHECK.same("batches", h.many(2), 12);
+        CHECK.same("lost", h.many(3), 0);
+        CHECK.same("sold", h.many(4), 0);
+        CHECK.same("bars", h.bars(1, 0, 10, 50), 7);
     }
 
     /** "BATCH by BATCH on the BELT that is not HARD: LOST": a HARD one is there for ever. */
